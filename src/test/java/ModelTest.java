@@ -1,0 +1,1 @@
+public final class ModelTest { public static void main(String[] a) { } }

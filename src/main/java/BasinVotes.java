@@ -686,7 +686,7 @@ public final class BasinVotes {
             return people >= MOST_PEOPLE;
         }
 
-        /** The caller has asked isFull(). The place may hold one that undo() took away, so all of it is written. */
+        /** The caller has asked isFull(). */
         int add(int kind) {
             int who = people;
             kinds[who] = kind;

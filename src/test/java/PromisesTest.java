@@ -128,6 +128,9 @@ public final class PromisesTest {
         x.set(1, 1, 1);
         x.set(0, 2, 9999);
         Due.is("6 those for the left", x.now(4), 2);
+        x.set(0, 1, 1);
+        Due.is("6 those for the left", x.now(4), 3);
+        x.set(0, 1, 62);
         x.set(1, 3, 1);
         Due.is("6 those for the left that aren't away", x.now(4), 0);
         Due.is("6 all pence, those away too", x.now(5), 9999 + 20);
@@ -760,6 +763,9 @@ public final class PromisesTest {
         fault("Boy", 0);
         fault("boY", 0);
         fault("boyY", 3);
+        fault("toy", 0);
+        fault("boyz", 0);
+        fault("aboy", 0);
         fault("boy,boy", 3);
         fault("boy;\tboy", 4);
         fault("boy\n", 3);
@@ -793,9 +799,10 @@ public final class PromisesTest {
         String eightBoys = "boy;boy;boy;boy;boy;boy;boy;boy";
         Due.is("26 nine boys", told(y, eightBoys + ";boy"), -1 - 32);
         Due.is("26 eight boys", told(y, eightBoys), 8);
-        y.image();
-        y.wipe();
+        eightAreAsGoodAsFewer(y);
         BasinVotes z = with(LADY);
+        Due.is("26 a long text", told(z, "left 0 1;                    "), -1 - 29);
+        Due.is("26 a shorter one has nothing of it", told(z, "left 0 1;"), -1 - 9);
         z.image();
         z.set(0, 2, 5);
         z.person(BOY);
@@ -803,6 +810,17 @@ public final class PromisesTest {
         z.undo();
         Due.is("26 one more is new", told(z, "agent"), 1);
         Due.is("26 leans of a new one", z.of(1, 1), 0);
+    }
+
+    private static void eightAreAsGoodAsFewer(BasinVotes eightBoys) {
+        Due.is("6 those for the left, of eight", eightBoys.now(4), 255);
+        Due.is("6 pence of eight", eightBoys.now(5), 160);
+        Due.is("21 who of eight", eightBoys.swing(60), NONE);
+        eightBoys.set(7, 2, 21);
+        Due.is("23 who of eight", eightBoys.richest(200), 7);
+        eightBoys.lies(0, 0, 16);
+        Due.is("13 eight boys take 16", eightBoys.days(1), 0);
+        Due.is("13 the last has his two", eightBoys.of(7, 2), 23);
     }
 
     private static void promise27() {
@@ -827,7 +845,9 @@ public final class PromisesTest {
             Due.is("27 n", x.sheet(0, 8, wild), wild < 0 ? SIZE : BEYOND);
         }
         Due.is("27 still there", x.write(0, 39, 5), 0);
+        x.write(0, 0, 6);
         Due.is("27 anew", x.sheet(0, 64, 40), 40);
+        Due.is("27 all 0", x.write(0, 0, 0), 0);
         Due.is("27 all 0", x.write(0, 39, 0), 0);
         Due.is("27 gone", x.sheet(0, 0, 7), 0);
         Due.is("27 missing", x.write(0, 0, 0), MISSING);

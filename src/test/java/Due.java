@@ -3,8 +3,14 @@ final class Due {
     private static final int MOST_PRINTED = 50;
     private static int asked = 0;
     private static int wrong = 0;
+    private static String about = "";
 
     private Due() {
+    }
+
+    /** What the answers asked for from now on are about: it is printed ahead of those that are wrong. */
+    static void about(String what) {
+        about = what + ": ";
     }
 
     static void is(String call, long got, long want) {
@@ -12,7 +18,7 @@ final class Due {
         if (got != want) {
             wrong++;
             if (wrong <= MOST_PRINTED) {
-                System.out.println(call + " answered " + got + ", due is " + want);
+                System.out.println(about + call + " answered " + got + ", due is " + want);
             }
         }
     }

@@ -1,20 +1,5 @@
 /** Each promise of the document: ordinary inputs, the edges that it names, and wrong inputs. Answers are worked by hand. */
-public final class PromisesTest {
-    private static final long BEYOND = -1000000001;
-    private static final long FULL = -1000000002;
-    private static final long KIND = -1000000003;
-    private static final long NONE = -1000000004;
-    private static final long STATE = -1000000005;
-    private static final long MISSING = -1000000006;
-    private static final long SIZE = -1000000007;
-
-    private static final int THROWER = 0;
-    private static final int LADY = 1;
-    private static final int BOY = 2;
-    private static final int STRANGER = 3;
-    private static final int AGENT = 4;
-    private static final int DIVER = 5;
-
+public final class PromisesTest extends Towns {
     private static final int[] WILD = {Integer.MIN_VALUE, -1000000, -1, 1000000, Integer.MAX_VALUE};
 
     private PromisesTest() {
@@ -54,14 +39,6 @@ public final class PromisesTest {
         promise36();
         promise37();
         Due.end();
-    }
-
-    private static BasinVotes with(int... kinds) {
-        BasinVotes x = new BasinVotes();
-        for (int kind : kinds) {
-            x.person(kind);
-        }
-        return x;
     }
 
     private static void promise1() {
@@ -668,13 +645,6 @@ public final class PromisesTest {
         Due.is("25 wipe", x.wipe(), 0);
         Due.is("25 empty", x.count(1), 0);
         Due.is("25 anew", x.feed('b', 1), 1);
-    }
-
-    private static int told(BasinVotes x, String text) {
-        for (int i = 0; i < text.length(); i++) {
-            x.feed(text.charAt(i), 1);
-        }
-        return x.town();
     }
 
     private static void promise26() {

@@ -501,6 +501,10 @@ final class TextEdges extends Towns {
     private static void nothingOfALongerText() {
         secondText("#" + " ".repeat(119), "left 0 1;", -1 - 9);
         secondText("#" + "1".repeat(119), "left 0 1", 1);
+        BasinVotes x = new BasinVotes();
+        told(x, "left 0 123");
+        Due.is("'left 0 9' behind 'left 0 123'", told(x, "left 0 9"), 1);
+        Due.is("left", x.basin(0, LEFT), 9);
         secondText("#" + "9".repeat(119), "boy pence", -1 - 9);
         secondText("#" + "s".repeat(119), "boy", 1);
         secondText("#" + ";".repeat(119), "boy", 1);
